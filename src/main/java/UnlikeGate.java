@@ -177,7 +177,7 @@ public final class UnlikeGate {
         if (i == -1) {
             return most;
         }
-        return i < most ? longestRows.personAt(told, line, set, i) : NONE;
+        return i < most ? longestRows.personAt(told, line, set, most, i) : NONE;
     }
 
     public int proof() {
@@ -480,7 +480,7 @@ public final class UnlikeGate {
         }
 
         int sees() {
-            return guard & allThings();
+            return guard & (1 << things) - 1;
         }
 
         int thingsOfMoreThan(int n) {
@@ -494,7 +494,7 @@ public final class UnlikeGate {
         }
 
         int look(int i) {
-            return hasPerson(i) ? looks[i] : 0;
+            return i >= 0 && i < persons ? looks[i] : 0;
         }
 
         int seenUnlike(int i, int j) {
@@ -820,13 +820,12 @@ public final class UnlikeGate {
             return most + 1;
         }
 
-        /** The i-th of the first of the longest rows, which has more than i. */
-        int personAt(Told told, Line line, int set, int i) {
+        /** The i-th of the first of the rows of most. */
+        int personAt(Told told, Line line, int set, int most, int i) {
             int rest = set;
-            int left = most(told, set);
             line.clear();
-            for (int k = 0; k <= i && k < MOST_PERSONS; k++) {
-                int next = firstWith(told, line, rest, left - k);
+            for (int k = 0; k <= i && k < most; k++) {
+                int next = firstWith(told, line, rest, most - k);
                 if (next == NOBODY) {
                     return NONE;
                 }
@@ -965,8 +964,9 @@ public final class UnlikeGate {
             int left = fewest(told, row);
             int look = 0;
             for (int k = 0; k <= i && k < row.size; k++) {
+                // With none at all no hat leaves so many: NONE is below what any place has.
                 int hat = firstHat(told, row, look, k, left);
-                if (left == NONE || hat == NONE) {
+                if (hat == NONE) {
                     return NONE;
                 }
                 int own = told.look(row.at(k));
