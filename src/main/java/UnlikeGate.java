@@ -847,8 +847,8 @@ public final class UnlikeGate {
     }
 
     /**
-     * STEPS. Of a stranger it counts only in which THINGS he is unlike the second one, a set of 32 there can be;
-     * so that 32 bits say of which sets one can get there.
+     * STEPS. Of a stranger it counts only in which THINGS he is unlike the second one: one set of 32 that there can be,
+     * so that the 32 bits of an int say from which sets one can get there.
      */
     private static final class Strangers {
         /** By THING: the sets that hold it, a bit each. */
@@ -857,7 +857,7 @@ public final class UnlikeGate {
         /** By passes and bar: the sets from which the second one is reached by just so many passes. */
         private final int[] reaching = new int[(MOST_BETWEEN + 2) * BARS];
 
-        /** How many strangers are wanted from one who is unlike in this set; no gate wants more than 12. */
+        /** How many strangers are wanted from one who is unlike in this set; no gate ever wants as many as 12. */
         int fewest(Told told, int unlike) {
             for (int bar = 0; bar < BARS; bar++) {
                 reaching[bar] = 1;
@@ -911,7 +911,8 @@ public final class UnlikeGate {
 
         /** The least CODE of a first stranger, behind whom just n passes are left. */
         int leastFirst(Told told, int first, int second, int n) {
-            for (int code = 0; code < told.codes(); code++) {
+            int codes = told.codes();
+            for (int code = 0; code < codes; code++) {
                 int look = told.lookOfCode(code);
                 int turned = unlike(first, look) & told.sees();
                 int left = unlike(look, second) & told.sees();

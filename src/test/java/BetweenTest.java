@@ -10,6 +10,7 @@ public final class BetweenTest {
         betweenByTurns();
         betweenMost();
         nearest();
+        nearestFar();
         steps();
         stepsByTwo();
         stepsByTurns();
@@ -96,6 +97,16 @@ public final class BetweenTest {
         CHECK.same("once round more", gate.between(0, 0, 12), 0);
         CHECK.same("square by ONE", Check.laid("t2,0;t2,0;p00;p01;p11;p10;").nearest(0, 0), 1);
         CHECK.same("square by TURNS", Check.laid("t2,0;t2,0;p00;p01;p11;p10;l2;").nearest(0, 0), 3);
+    }
+
+    private static void nearestFar() {
+        // By TURNS one can have to go down a tail, round a square and back up: 12 between, and 13, which are too many.
+        UnlikeGate gate = Check.laid("t4,0;t3,0;t4,0;p000;p020;p022;p222;p202;p001;p003;p303;p301;l2;");
+        CHECK.same("12 between", gate.nearest(4, 4), 12);
+        CHECK.same("11 between", gate.between(4, 4, 11), 0);
+        CHECK.holds("12 between", gate.between(4, 4, 12) > 0);
+        gate = Check.laid("t2,0;t3,0;t2,0;t4,0;p0000;p0100;p0101;p0001;p0011;p0211;p0213;p1213;p1013;l2;");
+        CHECK.same("13 are too many", gate.nearest(8, 8), UnlikeGate.NONE);
     }
 
     private static void steps(String text, int i, int j, int due, int dueFirst) {
@@ -225,6 +236,7 @@ public final class BetweenTest {
         // TURNS is as ONE: the same thing twice running does not matter.
         lent("t2,0;t2,1;p00;p01;p11;l2;", "000", 1, 0, 1, 0);
         lent("t2,0;t2,1;p00;p01;p11;l2;", "0101", 0, 0, 1, 0, 1);
+        lent("t2,1;t2,0;p00;l2;", "000", 1, 0, 2, 0);
         lent(TWO_HATS + "l1;", "00", 2, 0, 9);
         lent(TWO_HATS + "l1;", "01", 1, 0, 7);
         lent(TWO_HATS + "l3;", "00", 0, 0, 0);
@@ -256,6 +268,8 @@ public final class BetweenTest {
         CHECK.same("path", mustSeeOf(THREE), 3);
         CHECK.same("whatever he sees", mustSeeOf(THREE + "g0;"), 3);
         CHECK.same("TURNS as ONE", mustSeeOf(THREE + "l2;"), 3);
+        CHECK.same("TURNS as ONE, thing 0", mustSeeOf("t2,0;t2,0;p00;p10;l2;"), 1);
+        CHECK.same("TURNS as ONE, thing 1", mustSeeOf("t2,0;t2,0;p00;p01;l2;"), 2);
         CHECK.same("one person", mustSeeOf("t2,0;t2,0;p01;l3;"), 0);
         CHECK.same("one thing of three", mustSeeOf("t2,0;t2,0;t2,0;p000;p001;"), 4);
         CHECK.same("unlike in two, by ONE", mustSeeOf("t2,0;t2,0;t2,0;p000;p110;"), 0);

@@ -261,6 +261,9 @@ public final class GatesTest {
         CHECK.same("lay", gate.lay(), 1);
         CHECK.same("no law is ONE", gate.count(7), 0);
         CHECK.same("no guard sees all", gate.count(8), 7);
+        CHECK.same("lay once more", gate.lay(), 1);
+        CHECK.same("no law is ONE, whatever it was", gate.count(7), 0);
+        CHECK.same("no guard sees all, whatever he saw", gate.count(8), 7);
         CHECK.same("guard ahead of things", Check.laid("g4;t1,0;t1,0;t1,0;p000;").count(8), 4);
     }
 

@@ -107,6 +107,7 @@ public final class RowsTest {
     private static void longestByOne() {
         UnlikeGate gate = Check.laid(SIX);
         longest(gate, 0, "");
+        longest(gate, 1, "0");
         longest(gate, 32, "5");
         longest(gate, 18, "1");
         longest(gate, 15, "0123");
