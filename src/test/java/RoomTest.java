@@ -65,7 +65,8 @@ public final class RoomTest {
         for (int k = 0; k < ROUNDS; k++) {
             callAll(gate, k);
         }
-        // The reading itself takes some; the smallest object in each round would take more.
+        // Interpreted it is just 0; compiled, the machine now and then adds some bytes of its own,
+        // but far fewer than the smallest object in each round would take.
         CHECK.holds("calls take no room", taken() - before < 8 * ROUNDS);
     }
 
