@@ -22,6 +22,10 @@ final class Check {
         same(what, is ? 1 : 0, 1);
     }
 
+    int asked() {
+        return right + wrong;
+    }
+
     void end() {
         System.out.println(right + " answers right, " + wrong + " wrong");
         if (wrong != 0) {
