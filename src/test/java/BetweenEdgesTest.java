@@ -201,6 +201,29 @@ public final class BetweenEdgesTest {
         // 00 to 00 by 01, which nobody of these is.
         steps("t4,0;t4,0;p00;p33;", 0, 0, 1, 1);
         steps("t4,0;t4,0;p33;p00;", 0, 0, 1, 3);
+        // By 101 or 110: thing 0 cannot be 0.
+        steps("t2,0;t2,0;t2,0;p100;p111;", 0, 1, 1, 5);
+        // By 301 or 310.
+        steps("t4,0;t2,0;t2,0;p300;p311;", 0, 1, 1, 13);
+    }
+
+    @Says("has N (1 to 4) VALUES")
+    static void promise20_aThirdValue_isAWayThatTwoHaveNot() {
+        // By TWO from 00 to 01: 12, 01; of two values there is none.
+        steps("t2,0;t2,0;p00;p01;l1;", 0, 1, NONE, NONE);
+        steps("t2,0;t3,0;p00;p01;l1;", 0, 1, 1, 5);
+        steps("t2,0;t4,0;p00;p01;l1;", 0, 1, 1, 6);
+        steps("t3,0;t2,0;p00;p10;l1;", 0, 1, 1, 5);
+    }
+
+    @Says("and not in that in which the one ahead DIFFERED from the one ahead of him")
+    static void promise20_byTurns_theSameThingTwiceRunningIsNoWay() {
+        steps("t2,0;t2,0;p11;p00;l2;", 0, 1, 1, 1);
+        steps("t2,0;t2,0;p11;p00;l2;", 1, 0, 1, 1);
+        steps("t2,0;t2,0;p11;p00;l2;", 0, 0, 3, 1);
+        steps("t2,0;t2,0;p11;p00;l0;", 0, 0, 1, 1);
+        steps("t4,0;p0;l0;", 0, 0, 1, 1);
+        steps("t4,0;p0;l2;", 0, 0, NONE, NONE);
     }
 
     @Says("all that counts, but where told, are those that the GUARD sees.")
@@ -409,7 +432,10 @@ public final class BetweenEdgesTest {
     static void promise22_byTurns_isAsByOne() {
         mustSee(SQUARE, 3);
         mustSee(SQUARE + "l2;", 3);
-        mustSee("t2,0;p0;p1;l2;", 1);
+        for (int t = 0; t < 5; t++) {
+            String other = "p" + Edges.times(t, "0") + "1" + Edges.times(4 - t, "0") + ";";
+            mustSee(Edges.times(5, "t2,0;") + "p00000;" + other + "l2;", 1 << t);
+        }
     }
 
     @Says("if the GUARD saw these alone")
