@@ -40,7 +40,10 @@ public final class ModelTest {
 
     private void same(String call, long got, long due) {
         calls++;
-        check.same(run + call, got, due);
+        // A text that is told last can go beyond: what is answered there is free.
+        if (calls <= CALLS) {
+            check.same(run + call, got, due);
+        }
     }
 
     /** A number from low to high, now and then one beyond or far off. */
