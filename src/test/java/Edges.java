@@ -14,7 +14,7 @@ import java.util.regex.Pattern;
 
 /**
  * Runs cases: static methods promiseNN_case of a class, each with the document's words that it holds to.
- * A refused call is looked at twice: by its answer, and by all that a twin without that call answers behind it.
+ * A refused call is looked at twice: by its answer, and by what each View sees behind it, compared with a twin without that call.
  */
 final class Edges {
     static final int BAD = UnlikeGate.BAD, NO = UnlikeGate.NO, FULL = UnlikeGate.FULL, NONE = UnlikeGate.NONE;
