@@ -82,7 +82,7 @@ public final class BetweenEdgesTest {
         }
     }
 
-    @Says("of the first one, this row, the second one, one behind the other, JUDGED is none")
+    @Says("there are such that of the first one, this row, the second one, one behind the other, JUDGED is none")
     static void promise18_byTurns_theFirstIsBehindNobody() {
         UnlikeGate gate = Check.laid(SQUARE + "l2;");
         gate.goIn(3);
@@ -182,7 +182,7 @@ public final class BetweenEdgesTest {
         Edges.refused("steps(0, 0, 1)", () -> Check.laid("t1,0;p0;"), gate -> gate.steps(0, 0, 1), NONE);
     }
 
-    @Says("with strangers of any VALUES between them: the fewest")
+    @Says("STEPS: likewise, but with strangers of any VALUES between them: the fewest")
     static void promise20_unlikeInAllFive_are4() {
         String five = Edges.times(5, "t4,0;") + "p00000;p33333;";
         steps(five, 0, 1, 4, 3);
@@ -331,7 +331,7 @@ public final class BetweenEdgesTest {
         }
     }
 
-    @Says("each in THE ROW may have another VALUE of each THING that can be BORROWED")
+    @Says("LENT: each in THE ROW may have another VALUE of each THING that can be BORROWED")
     static void promise21_nothingLent_isTheRowItself() {
         lent(SQUARE, "0123", 0, 0, 1, 3, 2);
         lent("t2,1;t2,1;p00;p01;p11;p10;", "0123012301230123", 0, 0, 1, 3, 2, 0, 1, 3, 2, 0, 1, 3, 2, 0, 1, 3, 2);
@@ -360,7 +360,7 @@ public final class BetweenEdgesTest {
         lent("t2,0;t4,1;t2,0;t4,1;p0000;p1303;", "01", 2, 0, 32);
     }
 
-    @Says("of several ways that of the least CODE of the first, then the second, ..")
+    @Says("by these the CODE of the i-th, of several ways that of the least CODE of the first, then the second, ..; none.")
     static void promise21_ofSeveralWays_isThatOfTheLeastCodes() {
         lent("t4,1;p3;", "00", 1, 0, 3);
         lent("t4,1;p1;", "00", 1, 0, 1);
@@ -438,7 +438,7 @@ public final class BetweenEdgesTest {
         }
     }
 
-    @Says("if the GUARD saw these alone")
+    @Says("MUST SEE: of sets of THINGS (bits) such that, if the GUARD saw these alone")
     static void promise22_whateverTheGuardSees_isTheSame() {
         for (int guard = 0; guard < 32; guard++) {
             mustSee(SQUARE + "g" + guard + ";", 3);
@@ -460,7 +460,8 @@ public final class BetweenEdgesTest {
         return x.multiply(x).mod(BigInteger.valueOf(65521)).mod(BigInteger.valueOf(persons)).intValue();
     }
 
-    @Says({"PERSON ((x times x) modulo 65521) modulo how many there are", "x being 7919 z, 6151 k and 1 together"})
+    @Says({"the k-th (0 first) to come is PERSON ((x times x) modulo 65521) modulo how many there are",
+        "x being 7919 z, 6151 k and 1 together"})
     static void promise23_leastAndGreatestDraws_areDrawnRight() {
         for (int persons = 1; persons <= 9; persons++) {
             UnlikeGate gate = Check.laid("t1,0;" + Edges.times(persons, "p0;") + "l3;");

@@ -40,7 +40,7 @@ public final class GatesEdgesTest {
         Edges.is("guard", gate.count(8), 3);
     }
 
-    @Says("all are outside at first.")
+    @Says("THE GATE: all are outside at first.")
     static void promise01_atFirst_allAreOutsideAndEachMay() {
         UnlikeGate gate = new UnlikeGate();
         for (int i = 0; i < 3; i++) {
@@ -62,6 +62,21 @@ public final class GatesEdgesTest {
         Edges.is("fault", gate.fault(), NONE);
         Edges.is("lay", gate.lay(), NO);
         Edges.is("wipe", gate.wipe(), 0);
+    }
+
+    @Says("An object is used for at most 512 calls after it has been made; what later calls answer is free.")
+    static void promise01_each512Calls_areAnsweredAsTheFirst() {
+        UnlikeGate gate = new UnlikeGate();
+        for (int calls = 0; calls < 504; calls += 7) {
+            Edges.is("goIn", gate.goIn(0), 1);
+            Edges.is("undo", gate.undo(), 0);
+            Edges.is("write", gate.write(8, -1L), 8);
+            Edges.is("wipe", gate.wipe(), 8);
+            Edges.is("longest", gate.longest(7, -1), 3);
+            Edges.is("between", gate.between(0, 2, 11), 32);
+            Edges.is("steps", gate.steps(0, 2, 1), 1);
+        }
+        Edges.counts("up to the 512th call", gate, 3, 2, 0, 0, 0, 0, 0, 0);
     }
 
     @Says("`UnlikeGate()`: As told.")
@@ -157,7 +172,7 @@ public final class GatesEdgesTest {
         }
     }
 
-    @Says({"A TEXT is bytes (300 at most)", "BAD; FULL.", "nothing changes then."})
+    @Says({"A TEXT is bytes (300 at most)", "BAD; FULL.", "FULL. Of several the first; nothing changes then."})
     static void promise02_the301stByte_isFull() {
         for (int n = 1; n <= 8; n++) {
             int bytes = n;
@@ -256,7 +271,7 @@ public final class GatesEdgesTest {
         Edges.is("persons", Check.laid(WHOLE).count(0), 1);
     }
 
-    @Says("the place of the first byte of the first ITEM that is not so.")
+    @Says("FAULT: the place of the first byte of the first ITEM that is not so.")
     static void promise04_faultInTheLastBytesOf300_isAtItsPlace() {
         fault("t1,0;p0;" + Edges.times(97, "l0;") + ";", 299);
         fault("t1,0;p0;" + Edges.times(97, "l0;") + "l", 299);
@@ -289,7 +304,8 @@ public final class GatesEdgesTest {
         "0123456789", ";"};
     private static final int[] STARTS = {0, 0, 0, 0, 0, 5, 5, 5, 8, 8, 8, 11, 11, 11};
 
-    @Says({"each a letter, numbers (one or two figures) parted by , and ;", "S is one to five figures instead"})
+    @Says({"ITEMS one behind the other, each a letter, numbers (one or two figures) parted by , and ;",
+        "S is one to five figures instead"})
     static void promise04_eachByteInEachPlace_isSoOrNot() {
         for (int at = 0; at < PLACES.length(); at++) {
             for (int b = 0; b < 256; b++) {
@@ -302,7 +318,7 @@ public final class GatesEdgesTest {
         }
     }
 
-    @Says({"numbers (one or two figures)", "has N (1 to 4) VALUES", "(B 1, 0;"})
+    @Says({"numbers (one or two figures)", "tN,B a THING has N (1 to 4) VALUES", "can be BORROWED or not (B 1, 0;"})
     static void promise04_numbersOfAThing_oneOrTwoFiguresAndInBounds() {
         for (int n = 0; n < 100; n++) {
             String two = n < 10 ? "0" + n : "" + n;
@@ -316,7 +332,7 @@ public final class GatesEdgesTest {
         }
     }
 
-    @Says({"the LAW: 0 ONE, 1 TWO, 2 TURNS, 3 ONE OR NONE", "sees the THINGS G (bits; 0 to 31;"})
+    @Says({"lK the LAW: 0 ONE, 1 TWO, 2 TURNS, 3 ONE OR NONE", "gG the GUARD sees the THINGS G (bits; 0 to 31;"})
     static void promise04_numbersOfLawAndGuard_oneOrTwoFiguresAndInBounds() {
         for (int n = 0; n < 100; n++) {
             String two = n < 10 ? "0" + n : "" + n;
@@ -403,7 +419,8 @@ public final class GatesEdgesTest {
 
     // ---- 5
 
-    @Says({"LAID is a TEXT without FAULT, of a THING and a PERSON at least (NO else;", "nothing changes then."})
+    @Says({"LAID is a TEXT without FAULT, of a THING and a PERSON at least (NO else;", "NO: not as things stand.",
+        "nothing UNDONE, KEPT. NO.", "nothing changes then."})
     static void promise05_withoutAPerson_isNo() {
         for (String text : new String[] {"", "t2,0;", "t4,1;t4,1;l1;g0;", "l3;g0;", "l1;"}) {
             Edges.refused("lay of " + text, () -> Edges.busyWith(text), UnlikeGate::lay, NO);
@@ -497,6 +514,22 @@ public final class GatesEdgesTest {
         Edges.is("guard told ahead", Check.laid("g30;t2,0;t2,0;p00;").count(8), 2);
     }
 
+    @Says("(some may be alike)")
+    static void promise05_alikePersons_areTwoAndGoEachForHimself() {
+        UnlikeGate gate = Check.laid("t3,0;t2,0;p21;p20;p21;l3;");
+        Edges.is("persons", gate.count(0), 3);
+        Edges.is("code of the one", gate.person(0, -1), 5);
+        Edges.is("code of the other", gate.person(2, -1), 5);
+        Edges.is("they differ in nothing", gate.differ(0, 2, false), 0);
+        Edges.is("the one goes in", gate.goIn(0), 1);
+        Edges.is("the other is outside", gate.person(2, -2), 0);
+        Edges.is("he cannot go out", gate.goOut(2), NO);
+        Edges.is("he goes in behind the one", gate.goIn(2), 2);
+        Edges.is("last", gate.last(), 2);
+        Edges.is("the one goes out", gate.goOut(0), 1);
+        Edges.is("the other is in", gate.person(2, -2), 1);
+    }
+
     @Says("LAID: how many PERSONS; all outside")
     static void promise05_behindANo_theTextCanBeMended() {
         UnlikeGate gate = Edges.busyWith("t2,0;p1");
@@ -518,7 +551,7 @@ public final class GatesEdgesTest {
         }
     }
 
-    @Says("the VALUES as figures, that of THING 0 the highest, each to the base of how many VALUES its THING has.")
+    @Says("CODE: the VALUES as figures, that of THING 0 the highest, each to the base of how many VALUES its THING has.")
     static void promise06_codes_areFiguresOfTheThingsBases() {
         UnlikeGate gate = Check.laid(FIVE + "p00000;p32103;p10000;p01000;p00100;p00001;");
         int[] codes = {0, 95, 24, 8, 4, 1};

@@ -33,7 +33,7 @@ public final class InAndOutEdgesTest {
         }
     }
 
-    @Says("by ONE, if they DIFFER in just one THING")
+    @Says("One may PASS behind another one: by ONE, if they DIFFER in just one THING")
     static void promise08_byOne_inNoneOneTwoAndMore() {
         Edges.may("by ONE", behind(BY_HOW_MANY + "l0;", 0), "0010000");
     }
@@ -51,6 +51,31 @@ public final class InAndOutEdgesTest {
     @Says("by ONE OR NONE, in one at most")
     static void promise08_byOneOrNone_inNoneOneTwoAndMore() {
         Edges.may("by ONE OR NONE", behind(BY_HOW_MANY + "l3;", 0), "1110000");
+    }
+
+    @Says({"a gate that lets in whoever differs in just one thing from the one before, in two, never in the same thing twice running",
+        "told in a text with the first fault: things with their values, people, what can be borrowed, what the guard sees"})
+    static void promise08_toldInAText_theGateLetsInByItsLaw() {
+        String told = "t2,0;t2,1;p00;p01;p11;p10;g3;";
+        Edges.is("in just one thing", goneIn(told, "0123"), 4);
+        Edges.is("in just one thing, not in two", goneIn(told, "02"), NO);
+        Edges.is("in two", goneIn(told + "l1;", "02"), 2);
+        Edges.is("in two, not in one", goneIn(told + "l1;", "01"), NO);
+        Edges.is("never in the same thing twice running", goneIn("t3,0;t2,1;p00;p10;p20;g3;l2;", "012"), NO);
+        Edges.is("in one and then the other", goneIn(told + "l2;", "0123"), 4);
+        UnlikeGate gate = new UnlikeGate();
+        Check.write(gate, told + "p20;");
+        Edges.is("with the first fault", gate.fault(), 29);
+    }
+
+    /** What the last of these answers who go in, one behind the other. */
+    private static int goneIn(String text, String row) {
+        UnlikeGate gate = Check.laid(text);
+        int answer = NONE;
+        for (int k = 0; k < row.length(); k++) {
+            answer = gate.goIn(row.charAt(k) - '0');
+        }
+        return answer;
     }
 
     @Says("(behind himself, too: he DIFFERS in nothing then)")
@@ -400,7 +425,7 @@ public final class InAndOutEdgesTest {
 
     // ---- 12
 
-    @Says("Who PASSED last. NONE.")
+    @Says({"Who PASSED last. NONE.", "NONE: there is none."})
     static void promise12_nobodyPassed_isNone() {
         Edges.is("new", new UnlikeGate().last(), NONE);
         Edges.is("laid", Check.laid(SQUARE).last(), NONE);

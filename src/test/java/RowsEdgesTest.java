@@ -254,7 +254,7 @@ public final class RowsEdgesTest {
         }
     }
 
-    @Says("that of most, of several the first (by the first PERSON, then the second, ..)")
+    @Says("that of most, of several the first (by the first PERSON, then the second, ..): how many; the i-th.")
     static void promise16_ofSeveral_isTheFirst() {
         // Nobody behind nobody else: of nine rows of one, person 0's, or the least of the set.
         UnlikeGate gate = Check.laid("t2,0;" + Edges.times(9, "p1;"));
@@ -354,7 +354,7 @@ public final class RowsEdgesTest {
         }
     }
 
-    @Says("1, if by ONE, the GUARD seeing all THINGS")
+    @Says("PROOF: 1, if by ONE, the GUARD seeing all THINGS")
     static void promise17_byAnotherLaw_is0() {
         for (int law = 0; law <= 3; law++) {
             proof(CUBE + "p000;p000;l" + law + ";", law == 0 ? 1 : 0);
